@@ -36,6 +36,7 @@ public final class EatKnown {
     private int pastFirst;
     private int pastMany;
     private final Standing[] marks;
+    private final int[] guessesAble;
     private final Groups groups;
     private final Seats seats;
     private final Hands copyists;
@@ -57,6 +58,7 @@ public final class EatKnown {
         for (int i = 0; i < marks.length; i++) {
             marks[i] = new Standing();
         }
+        guessesAble = new int[MOST_TASKS];
         groups = new Groups();
         seats = new Seats();
         copyists = new Hands();
@@ -313,11 +315,18 @@ public final class EatKnown {
         int many = 0;
         int inAll = library.honest;
         int inSome = 0;
+        for (int task = 0; task < MOST_TASKS; task++) {
+            guessesAble[task] = 0;
+        }
         for (int set = 0; set <= library.honest; set++) {
-            if (isGuess(set, weight)) {
-                many++;
-                inAll &= set;
-                inSome |= set;
+            if ((set & ~library.honest) == 0 && library.weightOf(set) <= weight) {
+                int can = library.doable(library.said(set));
+                if (fitsTold(can)) {
+                    many++;
+                    inAll &= set;
+                    inSome |= set;
+                    countAble(can);
+                }
             }
         }
         if (many == 0) {
@@ -331,7 +340,7 @@ public final class EatKnown {
             case 2:
                 return inSome;
             default:
-                return tellingTask(weight, many);
+                return tellingTask(many);
         }
     }
 
@@ -518,25 +527,21 @@ public final class EatKnown {
         return weight < least || weight == least && isFewer(set, best);
     }
 
-    private boolean isGuess(int set, int weight) {
-        if ((set & ~library.honest) != 0 || library.weightOf(set) > weight) {
-            return false;
-        }
-        int can = library.doable(library.said(set));
+    private boolean fitsTold(int can) {
         return (now.toldCan & ~can) == 0 && (now.toldCannot & can) == 0;
     }
 
-    private int tellingTask(int weight, int many) {
+    private void countAble(int can) {
+        for (int task = 0; task < MOST_TASKS; task++) {
+            guessesAble[task] += can >> task & 1;
+        }
+    }
+
+    private int tellingTask(int many) {
         int best = NONE;
         int most = 0;
-        for (int task = 0; task < library.tasks.many; task++) {
-            int able = 0;
-            for (int set = 0; set <= library.honest; set++) {
-                if (isGuess(set, weight) && library.can(set, task)) {
-                    able++;
-                }
-            }
-            int lesser = Math.min(able, many - able);
+        for (int task = 0; task < MOST_TASKS; task++) {
+            int lesser = Math.min(guessesAble[task], many - guessesAble[task]);
             if (lesser > most) {
                 most = lesser;
                 best = task;
@@ -1682,7 +1687,7 @@ public final class EatKnown {
             if (tasks == 0) {
                 return true;
             }
-            int first = Integer.numberOfTrailingZeros(tasks);
+            int first = Integer.bitCount((tasks & -tasks) - 1);
             int others = tasks & tasks - 1;
             for (int group = 0; group <= people; group++) {
                 if ((group & ~people) == 0 && (able[group] >> first & 1) != 0
