@@ -292,7 +292,7 @@ public final class EatKnown {
     }
 
     public int evenings() {
-        return groups.evenings(library, now.life);
+        return groups.fewestEvenings(library, now.life);
     }
 
     public boolean tell(int task, boolean can) {
@@ -790,6 +790,10 @@ public final class EatKnown {
                 || people.find(name) != NONE || tasks.find(name) != NONE;
         }
 
+        int allFacts() {
+            return (1 << facts.many) - 1;
+        }
+
         int allPages() {
             return (1 << pages.many) - 1;
         }
@@ -1040,9 +1044,19 @@ public final class EatKnown {
             return sum;
         }
 
+        int knownToSome(Library library) {
+            int set = 0;
+            for (int i = 0; i < MOST_PEOPLE; i++) {
+                if (lives(i)) {
+                    set |= known(library, i);
+                }
+            }
+            return set;
+        }
+
         /** The facts that are LOST. */
         int gone(Library library) {
-            return knownByAtMost(library, 0) & ~library.said(inStock() & library.honest);
+            return library.allFacts() & ~knownToSome(library) & ~library.said(inStock() & library.honest);
         }
     }
 
@@ -1123,7 +1137,7 @@ public final class EatKnown {
         }
     }
 
-    /** The TAPE, and the token at which its reader stands. */
+    /** The TAPE, and the tokens of which it is made up. */
     private static final class Tape {
         static final int NAME = 1;
         static final int NUMBER = 2;
@@ -1147,8 +1161,8 @@ public final class EatKnown {
         static final int COPY = 214;
         static final int BITE = 215;
         static final int BURN = 216;
+        /** The first of the KINDS, which stand in the order of their numbers. */
         static final int TRUE = 217;
-        static final int RECIPES = 219;
         static final int EAT = 220;
         static final int DIES = 221;
         static final int NIGHT = 222;
@@ -1165,12 +1179,12 @@ public final class EatKnown {
         static final String WORDS = "fact leans page weigh copies says clash person room die heir task worth needs copy bite burn true lie recipe eat dies night not and or heavy there has ";
 
         final char[] signs = new char[MOST_SIGNS];
+        /** Of each token, and of the END behind them: its sort, its first sign's place, and its number or letters. */
+        final int[] sorts = new int[MOST_SIGNS + 1];
+        final int[] places = new int[MOST_SIGNS + 1];
+        final long[] values = new long[MOST_SIGNS + 1];
         int many;
-        int place;
-        int sort;
-        int word;
-        long value;
-        private int next;
+        int tokens;
 
         void put(long bytes) {
             for (int shift = 56; shift >= 0; shift -= 8) {
@@ -1183,21 +1197,37 @@ public final class EatKnown {
             }
         }
 
-        void start() {
-            next = 0;
-            step();
+        /** Takes the signs, and leaves their tokens. */
+        void split() {
+            tokens = 0;
+            int at = 0;
+            while (at < many) {
+                int sign = signAt(at);
+                int end = at + 1;
+                if (isLetter(sign)) {
+                    end = addWord(at);
+                } else if (isDigit(sign)) {
+                    end = addNumber(at);
+                } else if (sign != 10 && sign != ' ') {
+                    add(isMark(sign) ? sign : WRONG, at, 0);
+                }
+                at = Math.max(at + 1, end);
+            }
+            add(END, many, 0);
+            many = 0;
         }
 
-        void clear() {
-            many = 0;
+        private void add(int sort, int place, long value) {
+            if (tokens >= 0 && tokens < sorts.length) {
+                sorts[tokens] = sort;
+                places[tokens] = place;
+                values[tokens] = value;
+                tokens++;
+            }
         }
 
         private int signAt(int at) {
             return at >= 0 && at < many && at < signs.length ? signs[at] : 0;
-        }
-
-        private static boolean isBlank(int sign) {
-            return sign == 10 || sign == ' ';
         }
 
         private static boolean isLetter(int sign) {
@@ -1224,65 +1254,47 @@ public final class EatKnown {
             }
         }
 
-        /** Goes on to the next token. */
-        void step() {
-            while (next < many && isBlank(signAt(next))) {
-                next++;
+        /** The place behind the word that begins here. */
+        private int addWord(int from) {
+            int end = from;
+            long letters = 0;
+            while (end < many && isLetter(signAt(end))) {
+                letters = letters * 32 + (signAt(end) - 'a' + 1);
+                end++;
             }
-            place = next;
-            word = NONE;
-            value = 0;
-            int sign = signAt(next);
-            if (next >= many) {
-                sort = END;
-            } else if (isLetter(sign)) {
-                readWord();
-            } else if (isDigit(sign)) {
-                readNumber();
-            } else {
-                next++;
-                sort = isMark(sign) ? sign : WRONG;
-            }
+            int length = end - from;
+            add(length > LONGEST_WORD ? WRONG : sortOfWord(from, length), from, letters);
+            return end;
         }
 
-        private void readWord() {
-            while (next < many && isLetter(signAt(next))) {
-                value = value * 32 + (signAt(next) - 'a' + 1);
-                next++;
+        /** The place behind the number that begins here. */
+        private int addNumber(int from) {
+            int end = from;
+            long number = 0;
+            while (end < many && isDigit(signAt(end))) {
+                number = number * 10 + (signAt(end) - '0');
+                end++;
             }
-            if (next - place > LONGEST_WORD) {
-                sort = WRONG;
-                return;
-            }
-            word = numberInWords();
-            sort = word >= FACT && word < HEAVY ? word : NAME;
+            add(end - from > LONGEST_NUMBER ? WRONG : NUMBER, from, number);
+            return end;
         }
 
-        private void readNumber() {
-            while (next < many && isDigit(signAt(next))) {
-                value = value * 10 + (signAt(next) - '0');
-                next++;
-            }
-            sort = next - place > LONGEST_NUMBER ? WRONG : NUMBER;
-        }
-
-        private int numberInWords() {
-            int length = next - place;
-            int number = FACT;
+        private int sortOfWord(int from, int length) {
+            int sort = FACT;
             int alike = 0;
             for (int i = 0; i < WORDS.length(); i++) {
                 char letter = WORDS.charAt(i);
                 if (letter == ' ') {
                     if (alike == length) {
-                        return number;
+                        return sort;
                     }
-                    number++;
+                    sort++;
                     alike = 0;
                 } else if (alike >= 0) {
-                    alike = alike < length && signAt(place + alike) == letter ? alike + 1 : -1;
+                    alike = alike < length && signAt(from + alike) == letter ? alike + 1 : NONE;
                 }
             }
-            return NONE;
+            return NAME;
         }
     }
 
@@ -1297,6 +1309,7 @@ public final class EatKnown {
         private static final int PART_LEVEL = 4;
 
         private final Tape tape;
+        private int at;
         private Library book;
         private Lines lines;
         private Formula formula;
@@ -1316,12 +1329,10 @@ public final class EatKnown {
             copyTold = false;
             biteTold = false;
             burnTold = false;
-            fault = 0;
-            tape.start();
-            for (int i = 0; i < MOST_SIGNS && fault == 0 && tape.sort != Tape.END; i++) {
+            begin();
+            for (int i = 0; i < MOST_SIGNS && fault == 0 && sort() != Tape.END; i++) {
                 readStatement();
             }
-            tape.clear();
             return fault;
         }
 
@@ -1329,37 +1340,53 @@ public final class EatKnown {
             book = library;
             lines = into;
             lines.many = 0;
-            fault = 0;
-            tape.start();
-            for (int i = 0; i < MOST_SIGNS && fault == 0 && tape.sort != Tape.END; i++) {
+            begin();
+            for (int i = 0; i < MOST_SIGNS && fault == 0 && sort() != Tape.END; i++) {
                 readLine();
             }
-            tape.clear();
             return fault;
         }
 
+        private void begin() {
+            tape.split();
+            at = 0;
+            fault = 0;
+        }
+
+        private int sort() {
+            return at >= 0 && at < tape.sorts.length ? tape.sorts[at] : Tape.END;
+        }
+
+        private long value() {
+            return at >= 0 && at < tape.values.length ? tape.values[at] : 0;
+        }
+
+        private boolean isName() {
+            return sort() == Tape.NAME || sort() >= Tape.HEAVY;
+        }
+
         private void fail(int kind) {
-            if (fault == 0) {
-                fault = kind + 16 * tape.place;
+            if (fault == 0 && at >= 0 && at < tape.places.length) {
+                fault = kind + 16 * tape.places[at];
             }
         }
 
         private void step() {
-            if (fault == 0) {
-                tape.step();
+            if (fault == 0 && at + 1 < tape.tokens) {
+                at++;
             }
         }
 
         private void take(int sort) {
-            if (tape.sort != sort) {
+            if (sort() != sort) {
                 fail(CANNOT_STAND);
             }
             step();
         }
 
         private int takeNumber(int least, int most) {
-            int number = (int) tape.value;
-            if (tape.sort != Tape.NUMBER) {
+            int number = (int) value();
+            if (sort() != Tape.NUMBER) {
                 fail(CANNOT_STAND);
             } else if (number < least || number > most) {
                 fail(WRONG_NUMBER);
@@ -1374,8 +1401,8 @@ public final class EatKnown {
                 fail(TOO_MANY);
             }
             step();
-            long name = tape.value;
-            if (tape.sort != Tape.NAME) {
+            long name = value();
+            if (!isName()) {
                 fail(CANNOT_STAND);
             } else if (book.isTold(name)) {
                 fail(TOLD_ALREADY);
@@ -1386,8 +1413,8 @@ public final class EatKnown {
 
         /** The number of the name at which the tape stands; it is not passed yet. */
         private int lookUp(Names names) {
-            int number = names.find(tape.value);
-            if (tape.sort != Tape.NAME) {
+            int number = names.find(value());
+            if (!isName()) {
                 fail(CANNOT_STAND);
             } else if (number == NONE) {
                 fail(NOT_TOLD);
@@ -1404,7 +1431,7 @@ public final class EatKnown {
         /** At least one fact, up to the end of the statement. */
         private int takeFacts() {
             int set = 0;
-            for (int i = 0; i < MOST_SIGNS && fault == 0 && (i == 0 || tape.sort != ';'); i++) {
+            for (int i = 0; i < MOST_SIGNS && fault == 0 && (i == 0 || sort() != ';'); i++) {
                 int fact = lookUp(book.facts);
                 if (fact != NONE && (set >> fact & 1) != 0) {
                     fail(TOLD_ALREADY);
@@ -1424,7 +1451,7 @@ public final class EatKnown {
         }
 
         private void readStatement() {
-            switch (tape.sort) {
+            switch (sort()) {
                 case Tape.FACT:
                     readFact();
                     break;
@@ -1470,7 +1497,7 @@ public final class EatKnown {
         private void readFact() {
             long name = takeNewName(book.facts);
             int on = 0;
-            if (tape.sort == Tape.LEANS) {
+            if (sort() == Tape.LEANS) {
                 step();
                 on = takeFacts();
             }
@@ -1481,8 +1508,8 @@ public final class EatKnown {
 
         private void readPage() {
             long name = takeNewName(book.pages);
-            int kind = tape.sort - Tape.TRUE;
-            if (tape.sort < Tape.TRUE || tape.sort > Tape.RECIPES) {
+            int kind = sort() - Tape.TRUE;
+            if (kind < 0 || kind > RECIPE) {
                 fail(CANNOT_STAND);
             }
             step();
@@ -1517,7 +1544,7 @@ public final class EatKnown {
             take(Tape.DIE);
             int die = takeNumber(0, 10);
             int heir = NONE;
-            if (tape.sort == Tape.HEIR) {
+            if (sort() == Tape.HEIR) {
                 step();
                 heir = takeTold(book.people);
             }
@@ -1576,7 +1603,7 @@ public final class EatKnown {
             }
             readLevel(level + 1, depth);
             for (int i = 0; i < MOST_SIGNS && fault == 0; i++) {
-                int step = joint(level, tape.sort);
+                int step = joint(level, sort());
                 if (step == NONE || level == 1 && i > 0) {
                     return;
                 }
@@ -1587,8 +1614,8 @@ public final class EatKnown {
         }
 
         private boolean startsPart() {
-            return tape.sort == Tape.NUMBER || tape.sort == Tape.NOT || tape.sort == '('
-                || tape.word == Tape.HEAVY || tape.word == otherWord;
+            return sort() == Tape.NUMBER || sort() == Tape.NOT || sort() == '('
+                || sort() == Tape.HEAVY || sort() == otherWord;
         }
 
         private void readPart(int depth) {
@@ -1600,9 +1627,8 @@ public final class EatKnown {
             if (fault != 0) {
                 return;
             }
-            int sort = tape.sort;
-            int word = tape.word;
-            int number = (int) tape.value;
+            int sort = sort();
+            int number = (int) value();
             step();
             if (sort == Tape.NUMBER) {
                 formula.add(Formula.NUMBER, number);
@@ -1613,12 +1639,12 @@ public final class EatKnown {
                 readLevel(0, depth + 1);
                 take(')');
             } else {
-                formula.add(word == Tape.HEAVY ? Formula.HEAVY : Formula.OTHER, 0);
+                formula.add(sort == Tape.HEAVY ? Formula.HEAVY : Formula.OTHER, 0);
             }
         }
 
         private void readLine() {
-            int act = tape.sort;
+            int act = sort();
             boolean hasPerson = act == Tape.EAT || act == Tape.BITE || act == Tape.DIES;
             boolean hasPage = act == Tape.EAT || act == Tape.BITE || act == Tape.COPY;
             if (!hasPerson && !hasPage && act != Tape.NIGHT) {
@@ -1638,17 +1664,19 @@ public final class EatKnown {
 
     /** People who sit together, each knowing what any of them knows. */
     private static final class Groups {
-        private static final int ALL_GROUPS = 1 << MOST_PEOPLE;
-        private static final int ALL_TASKS = 1 << MOST_TASKS;
+        private static final int MOST_GROUPS = 1 << MOST_PEOPLE;
+        private static final int MOST_SETS = 1 << MOST_TASKS;
         private static final int NEVER = 99;
 
-        private final int[] able = new int[ALL_GROUPS];
-        private final boolean[] apart = new boolean[ALL_TASKS * ALL_GROUPS];
-        private final int[] least = new int[ALL_TASKS];
+        private final int[] able = new int[MOST_GROUPS];
+        private final boolean[] apart = new boolean[MOST_SETS * MOST_GROUPS];
+        private final int[] least = new int[MOST_SETS];
+        private int many;
 
         /** The TASKS that each group of the living can do. */
         private void look(Library library, Life life) {
-            for (int group = 0; group < ALL_GROUPS; group++) {
+            many = 1 << library.people.many;
+            for (int group = 0; group < many && group < MOST_GROUPS; group++) {
                 int known = 0;
                 for (int i = 0; i < MOST_PEOPLE; i++) {
                     if ((group >> i & 1) != 0) {
@@ -1662,7 +1690,7 @@ public final class EatKnown {
         int fewest(Library library, Life life, int task) {
             look(library, life);
             int best = NONE;
-            for (int group = 0; group < ALL_GROUPS; group++) {
+            for (int group = 0; group < many && group < MOST_GROUPS; group++) {
                 if ((able[group] >> task & 1) != 0 && isFewer(group, best)) {
                     best = group;
                 }
@@ -1670,16 +1698,17 @@ public final class EatKnown {
             return best;
         }
 
-        int evenings(Library library, Life life) {
+        int fewestEvenings(Library library, Life life) {
             look(library, life);
-            int everybody = life.alive & ALL_GROUPS - 1;
-            for (int tasks = 0; tasks < ALL_TASKS; tasks++) {
-                for (int people = 0; people < ALL_GROUPS; people++) {
-                    apart[tasks * ALL_GROUPS + people] = canSitApart(tasks, people);
+            int everybody = life.alive & MOST_GROUPS - 1;
+            int wanted = able[everybody] & MOST_SETS - 1;
+            for (int tasks = 0; tasks <= wanted; tasks++) {
+                for (int people = 0; people <= everybody; people++) {
+                    apart[tasks * MOST_GROUPS + people] = canSitApart(tasks, people);
                 }
-                least[tasks] = fewestEvenings(tasks, everybody);
+                least[tasks] = eveningsFor(tasks, everybody);
             }
-            return least[able[everybody] & ALL_TASKS - 1];
+            return least[wanted];
         }
 
         /** True if each of the tasks can have a group of its own of these people; fewer tasks were looked at before. */
@@ -1691,17 +1720,17 @@ public final class EatKnown {
             int others = tasks & tasks - 1;
             for (int group = 0; group <= people; group++) {
                 if ((group & ~people) == 0 && (able[group] >> first & 1) != 0
-                        && apart[others * ALL_GROUPS + (people & ~group)]) {
+                        && apart[others * MOST_GROUPS + (people & ~group)]) {
                     return true;
                 }
             }
             return false;
         }
 
-        private int fewestEvenings(int tasks, int everybody) {
+        private int eveningsFor(int tasks, int everybody) {
             int best = tasks == 0 ? 0 : NEVER;
             for (int tonight = 1; tonight <= tasks; tonight++) {
-                if ((tonight & ~tasks) == 0 && apart[tonight * ALL_GROUPS + everybody]) {
+                if ((tonight & ~tasks) == 0 && apart[tonight * MOST_GROUPS + everybody]) {
                     best = Math.min(best, least[tasks & ~tonight] + 1);
                 }
             }
@@ -1818,8 +1847,8 @@ public final class EatKnown {
         void look(Library library, Life life, int many) {
             this.library = library;
             this.many = many;
-            known = ~life.knownByAtMost(library, 0);
-            kept = ~life.gone(library);
+            known = life.knownToSome(library);
+            kept = library.allFacts() & ~life.gone(library);
             for (int page = 0; page < MOST_PAGES; page++) {
                 copies[page] = life.copies[page];
                 burn(page);

@@ -250,6 +250,11 @@ final class ChoiceTest {
         year(y, 1, 1, 2, 1, 1);
         EatKnown z = Check.of(pages + "person ann room 1 die 3;person ben room 1 die 5;");
         year(z, 1, 1, 2, 0, 0);
+        // without pages the first two draws are those of the deaths, 8 and 8
+        EatKnown bare = Check.of("person ann room 1 die 5;person ben room 1 die 6;");
+        year(bare, 1, 1, 0, 0, 0);
+        EatKnown frail = Check.of("person ann room 1 die 8;person ben room 1 die 9;");
+        year(frail, 1, 1, 0, 1, 0);
         EatKnown w = Check.of(pages + "person ann room 1 die 4;person ben room 1 die 6 heir ann;");
         year(w, 1, 1, 2, 2, 2);
     }

@@ -169,6 +169,16 @@ final class DeedsTest {
         cost("2<1 or 1<2", 1);
         cost("1<2 and 2<1", 0);
         cost("2-2<1", 1);
+        cost("9-2*3", 3);
+        cost("9-2+3", 10);
+        cost("2*3-4", 2);
+        cost("2+3*4", 14);
+        cost("heavy=3", 0);
+        cost("0 or 0", 0);
+        cost("1 or 0", 1);
+        cost("0 and 0", 0);
+        cost("1-1 or 0*7", 0);
+        cost("(1=2)=0 and 7", 1);
     }
 
     private static void deaths() {
@@ -239,12 +249,15 @@ final class DeedsTest {
         check.same("day 0", x.count(6), 0);
         check.same("room as it was", x.person(0, 2), 2);
         check.same("five", x.count(11), 5);
+        check.same("ben is still dead", x.person(1, 0), 0);
         check.same("undo the death", x.undo(), true);
         check.same("alive", x.person(1, 0), 1);
+        check.same("the copy is still made", x.page(1, 2), 2);
         check.same("the heir has not that any more", x.person(0, 4), 0);
         check.same("undo the copy", x.undo(), true);
         check.same("copies", x.page(1, 2), 1);
         check.same("nothing spent", x.count(7), 0);
+        check.same("ben still has bitten", x.person(1, 4), 16);
         check.same("undo the bite", x.undo(), true);
         check.same("ann has both", x.person(0, 4), 17);
         check.same("ben none", x.person(1, 4), 0);

@@ -20,6 +20,7 @@ final class ReadingTest {
         depth();
         limits();
         whatReadingLeaves();
+        nothingOfAnEarlierOne();
         histories();
         check.end();
     }
@@ -139,6 +140,9 @@ final class ReadingTest {
         check.fault("fact a;fact b leans a fact;", 1, "fact;");
         check.fault(BASE + "fact b leans pa;", 2, "pa;");
         check.fault("fact a b;", 1, 7);
+        check.fault("fact a;fact aa;fact ab;fact ba;fact b;fact az;fact za;fact bz;fact zzzzzzzz;fact zzzzzzz;", 0, 0);
+        check.fault("fact ab;fact ba;fact zzzzzzzz;fact ab;", 3, "ab;");
+        check.fault("fact zzzzzzzy;fact zzzzzzzz;fact yzzzzzzz;fact b leans yzzzzzzz zzzzzzzz zzzzzzzx;", 2, "zzzzzzzx");
         check.fault("fact 1;", 1, 5);
     }
 
@@ -315,6 +319,50 @@ final class ReadingTest {
         check.same("no copies", x.count(5), 0);
         check.same("nothing spent", x.count(7), 0);
         check.same("nobody alive", x.count(4), 0);
+    }
+
+    /** The third library on an object has nothing of the first and the second. */
+    private static void nothingOfAnEarlierOne() {
+        String rich = "fact a;fact b leans a;fact c;page p true weigh 2 copies 9 says a b c;page q recipe weigh 3 copies 9 says b;"
+            + "page r true weigh 3 copies 9 says b;person ann room 9 die 0;person ben room 8 die 9 heir ann;"
+            + "task t worth 5 needs a b;task u worth 7 needs c;clash a b;clash b c;burn 9;copy 7;bite 4;";
+        String poor = "fact a;fact b;page p lie weigh 1 copies 1 says a;page q true weigh 1 copies 1 says a;"
+            + "person ann room 4 die 0;person ben room 5 die 0;task t worth 1 needs a;";
+        EatKnown x = Check.of(rich);
+        check.same("the second", Check.library(x, rich), 0);
+        x.tell(0, true);
+        x.tell(1, false);
+        x.eat(0, 0);
+        check.same("told", x.guessed(200, 0), -1);
+        check.same("the third", Check.library(x, poor), 0);
+        int[] counts = {2, 2, 2, 1, 2, 2, 0, 0, 0, 0, 0, 0, 0};
+        for (int what = 0; what < counts.length; what++) {
+            check.same("third: count " + what, x.count(what), counts[what]);
+        }
+        check.same("third: leans", x.fact(1, 0), 0);
+        check.same("third: clashes", x.fact(0, 1) + x.fact(1, 1), 0);
+        check.same("third: kind", x.page(0, 0), 1);
+        check.same("third: heir", x.person(1, 3), -1);
+        check.same("third: room", x.person(1, 2), 5);
+        check.same("third: nothing told: {} and q", x.guessed(200, 0), 2);
+        check.same("third: p is a lie", x.guessed(200, 2), 2);
+        check.same("third: no clash", x.lies(0), 0);
+        check.same("third: lost", x.lost(), 2);
+        check.same("third: eat", x.eat(0, 0), true);
+        check.same("third: he does not know a", x.person(0, 5), 0);
+        check.same("third: eat the other", x.eat(0, 1), true);
+        check.same("third: a bite takes one alone", x.bite(1, 0, 0), 1);
+        check.same("third: no copy", x.copy(0), -1);
+        check.same("the fourth", Check.library(x, poor), 0);
+        check.same("fourth: a copy costs its weight", x.copy(0), 1);
+        check.same("fourth: nothing burns", x.hands(0, 0), 1000000);
+        check.same("the fifth", Check.library(x, "fact a;bite has-2;copy there+1;"), 0);
+        check.same("the sixth", Check.library(x, rich.replace("copy 7;bite 4;", "")), 0);
+        check.same("the seventh", Check.library(x, rich.replace("copy 7;bite 4;", "")), 0);
+        x.eat(0, 0);
+        x.eat(0, 1);
+        check.same("seventh: a bite takes one alone", x.bite(1, 0, 1), 1);
+        check.same("seventh: a copy costs its weight", x.copy(0), 2);
     }
 
     private static void history(String text, int fault) {
