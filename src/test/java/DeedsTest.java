@@ -168,6 +168,9 @@ final class DeedsTest {
         cost("not there+1", 1);
         cost("2<1 or 1<2", 1);
         cost("1<2 and 2<1", 0);
+        cost("1+".repeat(250).concat("1-").concat("1+".repeat(50)).concat("1-220"), 80);
+        cost("0 or 0+1*not (2<1 and 0 or 1<1+1*(1+1))", 0);
+        cost("0 or 0+1*not (2<1 or 0 or 1<1+1*(1-1))", 1);
         cost("2-2<1", 1);
         cost("9-2*3", 3);
         cost("9-2+3", 10);

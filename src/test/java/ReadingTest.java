@@ -256,6 +256,14 @@ final class ReadingTest {
         check.fault("copy ((((((", 5, 10);
         check.fault("copy (((((99999", 1, 10);
         check.fault("copy ((((1))))+((((1))));", 0, 0);
+        String sum = "1+".repeat(496);
+        check.fault("copy " + sum + "1", 1, 998);
+        check.fault("copy " + sum + "1+ ", 1, 1000);
+        check.fault("copy " + sum + "1+!", 1, 999);
+        EatKnown x = new EatKnown();
+        check.same("a sum of 497", Check.library(x, "bite " + sum + "1;"), 0);
+        String deep = "copy not(0+1*not(2<1=0 or 1<1+1*(1+1)));";
+        check.fault(deep, 1, deep.indexOf("=0"));
     }
 
     private static String many(String before, int from, int to, String behind) {
@@ -331,7 +339,7 @@ final class ReadingTest {
         EatKnown x = Check.of(rich);
         check.same("the second", Check.library(x, rich), 0);
         x.tell(0, true);
-        x.tell(1, false);
+        x.tell(0, false);
         x.eat(0, 0);
         check.same("told", x.guessed(200, 0), -1);
         check.same("the third", Check.library(x, poor), 0);
