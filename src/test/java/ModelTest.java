@@ -14,9 +14,11 @@ final class ModelTest {
     private int people;
     private int tasks;
     private final int size;
+    private final boolean full;
 
     private ModelTest(int seed) {
         random = new Random(seed);
+        full = seed % 20 == 10;
         size = seed % 10 == 0 ? 12 : 2 + seed % 5;
     }
 
@@ -74,6 +76,12 @@ final class ModelTest {
         pages = 1 + below(size);
         people = below(6) == 0 ? below(3) : 2 + below(5);
         tasks = below(6);
+        if (full) {
+            facts = 12;
+            pages = 12;
+            people = 6;
+            tasks = 5;
+        }
         StringBuilder s = new StringBuilder();
         for (int i = 0; i < facts; i++) {
             s.append("fact f").append((char) ('a' + i));
