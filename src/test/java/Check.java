@@ -1,3 +1,6 @@
+import java.util.function.BooleanSupplier;
+import java.util.function.IntSupplier;
+
 /** Counts the answers that are not as due, and feeds texts. */
 final class Check {
     private int asked = 0;
@@ -78,6 +81,46 @@ final class Check {
         } catch (java.util.NoSuchElementException e) {
             return;
         }
+    }
+
+    /** All that can be told of an object without changing it, but for what can be undone and what the MARKS hold. */
+    static String all(EatKnown x) {
+        StringBuilder s = new StringBuilder();
+        for (int what = 0; what <= 12; what++) {
+            s.append(x.count(what)).append(' ');
+        }
+        for (int i = 0; i < 12; i++) {
+            for (int what = 0; what <= 4; what++) {
+                s.append(x.fact(i, what)).append(' ').append(x.page(i, what)).append(' ').append(x.task(i, what)).append(' ');
+            }
+        }
+        for (int i = 0; i < x.count(2); i++) {
+            for (int what = 0; what <= 8; what++) {
+                s.append(x.person(i, what)).append(' ');
+            }
+            s.append(x.unlearn(i)).append(' ');
+        }
+        for (int what = 0; what <= 3; what++) {
+            s.append(x.judged(what)).append(' ').append(x.guessed(200, what)).append(' ').append(x.lies(what)).append(' ');
+        }
+        return s.append(x.lost()).append(' ').append(x.evenings()).append(' ').append(x.safe(1)).append(' ')
+            .append(x.hands(1, 0)).append(' ').append(x.years(7, 9, 0)).toString();
+    }
+
+    /** The answer of a call behind which all is as it was ahead of it. */
+    void stays(String what, EatKnown x, IntSupplier call, int due) {
+        String ahead = all(x);
+        same(what, call.getAsInt(), due);
+        asked++;
+        if (!ahead.equals(all(x))) {
+            wrong++;
+            System.out.println(what + " changed something");
+        }
+    }
+
+    /** The same of a call that answers true or false. */
+    void stays(String what, EatKnown x, BooleanSupplier call, boolean due) {
+        stays(what, x, (IntSupplier) () -> call.getAsBoolean() ? 1 : 0, due ? 1 : 0);
     }
 
     /** Tells the count, and ends the run with exit code 1 if an answer was wrong. */
