@@ -45,6 +45,8 @@ final class DeedsEdgesTest {
         judgedEmptyAndFull();
         judgedFromTheLibraryAsTold();
         judgedLeavesOutWhatCanNotBe();
+        aNightIsADay();
+        judgedBites();
         lostThatWasNotAtFirst();
         marks0To3();
         marksHold();
@@ -59,6 +61,7 @@ final class DeedsEdgesTest {
         check.same("the last fact", x.fact(2, 2), 12);
         check.stays("behind the last", x, () -> x.fact(3, 2), -1);
         check.same("the first fact", x.fact(0, 1), 4);
+        check.same("the first page says it", x.fact(0, 2), 1);
         check.same("what 0", x.fact(1, 0), 1);
         check.same("what 3", x.fact(1, 3), -1);
         for (int far : FAR) {
@@ -116,6 +119,8 @@ final class DeedsEdgesTest {
         x.eat(2, 0);
         x.eat(2, 1);
         x.eat(2, 2);
+        x.eat(0, 2);
+        check.same("the first has eaten it as well", x.page(2, 4), 5);
         x.dies(2);
         int[] due = {0, 9, 3, 1, 7, 3, 3, 7, 3};
         for (int what = 0; what < due.length; what++) {
@@ -124,7 +129,7 @@ final class DeedsEdgesTest {
         check.nobody(x, 2, 9);
         x.days(1);
         check.same("the room of all is free", x.person(2, 2), 9);
-        check.same("but none of the dead has eaten as bits", x.page(2, 4), 2);
+        check.same("but none of the dead has eaten as bits", x.page(2, 4), 3);
         check.same("nor can do a task as bits", x.task(0, 2), 2);
     }
 
@@ -142,6 +147,8 @@ final class DeedsEdgesTest {
             check.same("what " + far, x.task(0, far), -1);
         }
         check.same("no tasks", Check.of("fact a;").task(0, 0), -1);
+        x.eat(0, 0);
+        check.same("the first can do it", x.task(0, 2), 1);
     }
 
     /** 12 facts, 12 pages, 6 people, 5 tasks: the last of each, and none behind it. */
@@ -686,6 +693,24 @@ final class DeedsEdgesTest {
         judge("eat cat p;eat ben p;eat ann p;dies ben;bite ben ann p;dies ann;dies cat;", 4, 6, 5);
     }
 
+    private static void aNightIsADay() {
+        judge("eat ann q;eat ann p;eat ann r;", 2, -1, 4);
+        judge("eat ann q;eat ann p;night;eat ann r;", -1, -1, 4);
+        judge("night;eat ann q;eat ann p;eat ann r;", 3, -1, 4);
+        judge("eat cat p;eat cat q;eat cat r;eat ann q;eat ann p;dies ben;night;bite ann cat r;", -1, -1, 4);
+        judge("eat cat p;eat cat q;eat cat r;eat ann q;eat ann p;dies ben;bite ann cat r;", 6, -1, 4);
+    }
+
+    private static void judgedBites() {
+        judge("eat cat p;bite ben cat p;bite ann ben p;", -1, -1, 4);
+        judge("eat cat p;bite cat ben p;", 1, -1, 4);
+        judge("eat cat p;bite ann ben p;", 1, -1, 4);
+        judge("eat cat p;bite ben cat p;bite ann cat p;", 2, -1, 4);
+        judge("eat ann p;bite ann ann p;", 1, -1, 4);
+        judge("dies ann;eat cat p;bite ann cat p;", 2, -1, 4);
+        judge("eat cat p;dies ann;bite ann cat p;bite ben cat p;bite ben cat p;", 2, -1, 4);
+    }
+
     private static void lostThatWasNotAtFirst() {
         judge("night;", -1, -1, 4);
         String text = "fact a;page p true weigh 1 copies 1 says a;person ann room 1 die 0;person ben room 1 die 0;";
@@ -743,7 +768,8 @@ final class DeedsEdgesTest {
         x.eat(2, 0);
         x.copy(2);
         x.tell(0, true);
-        Check.history(x, "night;dies ann;");
+        x.tell(1, false);
+        Check.history(x, "bite cat ben p;dies ann;");
         x.dies(0);
         x.days(2);
         x.eat(1, 1);
@@ -755,7 +781,8 @@ final class DeedsEdgesTest {
         check.same("ann is alive", x.person(0, 0), 1);
         x.eat(0, 1);
         x.copy(0);
-        x.tell(1, false);
+        x.tell(1, true);
+        x.tell(0, false);
         Check.history(x, "dies cat;");
         check.same("back", x.mark(2, true), true);
         check.same("nothing can be undone", x.count(11), 0);

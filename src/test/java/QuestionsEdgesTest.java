@@ -23,6 +23,7 @@ final class QuestionsEdgesTest {
         sitTheFewestOfEqualOnesTheLeast();
         evenings0IfNothingCanBeDone();
         eveningsFrom1To5();
+        groupsOfOneEveningApart();
         tellOthersAnd12AtMost();
         guessedWeight0To200();
         guessedSetsOfPagesNoLies();
@@ -48,6 +49,7 @@ final class QuestionsEdgesTest {
         yearsNoneIsOthers();
         yearsDraws();
         yearsAllIsAsAhead();
+        thenTheDayPasses();
         yearsWithoutPagesNoDraw();
         check.end();
     }
@@ -336,6 +338,29 @@ final class QuestionsEdgesTest {
         evenings("with two pairs again", y, 3);
     }
 
+    private static void groupsOfOneEveningApart() {
+        String text = "fact a;fact b;fact c;" + page("p", "recipe", 1, 1, "a") + page("q", "recipe", 1, 1, "b")
+            + page("r", "recipe", 1, 1, "c") + people(6, 9) + "task t worth 1 needs a b c;task u worth 1 needs a b;"
+            + "task v worth 1 needs c;task w worth 1 needs b c;task z worth 1 needs a;";
+        EatKnown x = Check.of(text);
+        int[][] meals = {{0, 0}, {0, 1}, {0, 2}, {1, 0}, {2, 1}, {3, 2}, {4, 0}, {5, 1}, {4, 2}, {5, 2}};
+        int[] due = {1, 2, 5, 4, 3, 2, 2, 2, 2, 1};
+        for (int i = 0; i < meals.length; i++) {
+            check.same("eat", x.eat(meals[i][0], meals[i][1]), true);
+            check.same("sit for z", x.sit(4), 1);
+            check.same("sit for t", x.sit(0), i < 2 ? -1 : 1);
+            check.same("evenings " + i, x.evenings(), due[i]);
+        }
+        EatKnown two = Check.of(text);
+        two.eat(0, 0);
+        two.eat(1, 1);
+        evenings("of u by both and z by one of them", two, 2);
+        two.eat(2, 0);
+        evenings("of u by two and z by the third", two, 1);
+        two.dies(1);
+        evenings("of z alone", two, 1);
+    }
+
     private static void tellOthersAnd12AtMost() {
         EatKnown x = Check.of(TEXT);
         check.stays("task 2", x, () -> x.tell(2, true), false);
@@ -591,6 +616,18 @@ final class QuestionsEdgesTest {
         rests(even, 3, 2, 13);
         rests(even, 3, 3, 13 + 1);
         rests(even, 3, 4, -1);
+        // each of the first one's choices leaves all copies but his own
+        EatKnown either = Check.of("fact a;" + page("p", "true", 2, 1, "a") + page("q", "true", 2, 1, "a") + people(3, 9)
+            + "task t worth 5 needs a;");
+        rests(either, 3, -1, 2);
+        rests(either, 3, 0, 13 + 2);
+        rests(either, 3, 1, 26 + 1);
+        rests(either, 7, -1, 6);
+        rests(either, 7, 3, 2 * 169 + 13);
+        EatKnown last = Check.of(twelve(1, 1) + people(2, 9) + "task t worth 5 needs l;");
+        rests(last, 3, -1, 2);
+        rests(last, 3, 0, 12 * 13);
+        rests(last, 3, 1, 12 * 13 + 12);
         EatKnown dear = Check.of(text.replace("worth 5", "worth 1"));
         rests(dear, 3, -1, 1);
         rests(dear, 3, 0, 0);
@@ -873,6 +910,23 @@ final class QuestionsEdgesTest {
         check.same("so nobody dies", x.years(5, 60, 1), 0);
         check.same("nobody eats", x.years(5, 60, 0), 0);
         check.same("what is lost is lost", x.years(5, 60, 2), Integer.bitCount(x.lost()));
+    }
+
+    private static void thenTheDayPasses() {
+        // one page of 3 a day, of two: in so many days both are eaten, but never on one
+        EatKnown x = Check.of("fact a;" + page("p", "recipe", 3, 1, "a") + page("q", "recipe", 3, 1, "a") + people(1, 5));
+        for (int seed = 0; seed < 10000; seed += 1111) {
+            Draws draws = new Draws(seed);
+            int eaten = 0;
+            for (int day = 1; day <= 60; day++) {
+                eaten |= 1 << draws.below(2);
+                draws.below(10);
+                check.same("eaten by " + seed + " in " + day, x.years(seed, day, 0), Integer.bitCount(eaten));
+            }
+        }
+        x.eat(0, 0);
+        check.same("room of today: 2 for 3", x.years(0, 1, 0) + x.years(1, 1, 0) + x.years(2, 1, 0) + x.years(3, 1, 0), 0);
+        check.same("on other days there is", x.years(0, 60, 0), 1);
     }
 
     private static void yearsWithoutPagesNoDraw() {

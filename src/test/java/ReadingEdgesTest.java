@@ -41,10 +41,14 @@ final class ReadingEdgesTest {
         noPartLiesWithinFive();
         oneComparisonInATest();
         intsWrap();
+        ofNotAndOrLessSameComes1Or0();
+        whatIsNot0IsSo();
+        fromTheLeft();
         withoutCopyHeavyWithoutBite0();
         theEndIsATokenAtTheTextsLength();
         theFirstWrongTokenTheLeastKind();
         withoutAFaultAllIsNew();
+        nothingOfWhatWasReadBefore();
         withAFaultAllStays();
         aHistoryIsTheHistory();
         atFirstNothing();
@@ -473,6 +477,8 @@ final class ReadingEdgesTest {
                 fault0("fact a;" + first + second.replace("nn", "nnn"));
             }
         }
+        fault0("fact a;fact aa;fact ab;fact ba;fact b;fact az;fact za;fact aaa;fact aba;fact baa;fact zz;fact z;");
+        fault0("fact aaaaaaaa;fact aaaaaaab;fact baaaaaaa;fact zzzzzzzz;fact zzzzzzzy;fact yzzzzzzz;fact aaaaaaa;");
         String eleven = many("fact f", 11, ";");
         check.fault(eleven + "fact fk;", 3, eleven.length() + 5);
         check.fault(eleven + "fact fa;", 3, eleven.length() + 5);
@@ -602,6 +608,66 @@ final class ReadingEdgesTest {
         cost("heavy*there", 72);
     }
 
+    private static void ofNotAndOrLessSameComes1Or0() {
+        cost("not 0", 1);
+        cost("not 1", 0);
+        cost("not 7", 0);
+        cost("(not 0)+(not 0)", 2);
+        cost("7 and 7", 1);
+        cost("0 and 7", 0);
+        cost("7 and 0", 0);
+        cost("0 and 0", 0);
+        cost("7 or 7", 1);
+        cost("0 or 7", 1);
+        cost("7 or 0", 1);
+        cost("0 or 0", 0);
+        cost("(7 and 7)*5+(0 or 3)*2", 7);
+        cost("6<7", 1);
+        cost("7<7", 0);
+        cost("8<7", 0);
+        cost("6=7", 0);
+        cost("7=7", 1);
+        cost("8=7", 0);
+        cost("(6<7)+(7=7)", 2);
+        cost("5+(7<7)+(6=7)+(0 and 1)+(0 or 0)+(not 9)", 5);
+    }
+
+    private static void whatIsNot0IsSo() {
+        cost("(0-1) and 1", 1);
+        cost("1 and 0-1", 1);
+        cost("0-1 or 0", 1);
+        cost("0 or 0-1", 1);
+        cost("not (0-1)", 0);
+        cost("2 and 3", 1);
+        cost("2048*1024*1024 and 1", 1);
+        cost("4096*1024*1024 or 0", 0);
+    }
+
+    private static void fromTheLeft() {
+        cost("9-3-2", 4);
+        cost("9-3+2", 8);
+        cost("9+3-2", 10);
+        cost("9-2*3", 3);
+        cost("2*3-1", 5);
+        cost("2*3*4", 24);
+        cost("(9-2)*3", 21);
+        cost("9-(3-2)", 8);
+        cost("1 or 1 and 0", 0);
+        cost("0 and 0 or 1", 1);
+        cost("1 or (1 and 0)", 1);
+        cost("0 and (0 or 1)", 0);
+        cost("not 0+1", 2);
+        cost("not (0+1)", 0);
+        cost("not 0*5", 5);
+        cost("not 3=0", 1);
+        cost("not 3<1", 1);
+        cost("1+1=2", 1);
+        cost("1+(1=2)", 1);
+        cost("3<2*2", 1);
+        cost("1<2 and 2<1 or 3=3", 1);
+        cost("5 and 3<2", 0);
+    }
+
     private static void withoutCopyHeavyWithoutBite0() {
         String text = "fact a;page p true weigh 9 copies 8 says a;page q true weigh 1 copies 9 says a;"
             + "person ann room 10 die 0;person ben room 10 die 0;";
@@ -723,6 +789,38 @@ final class ReadingEdgesTest {
         check.same("all is as at first", Check.all(new EatKnown()).equals(Check.all(y)), true);
         check.same("nothing can be undone", y.undo(), false);
         check.same("no mark", y.mark(0, true), false);
+    }
+
+    private static final String POOR = "fact a;fact b;fact c;page p true weigh 1 copies 1 says a;page q true weigh 1 copies 1 says b;"
+        + "person ann room 1 die 0;person ben room 40 die 0;task t worth 1 needs a;";
+
+    /** Each reading begins with nothing, whatever was read before, with a fault, too. */
+    private static void nothingOfWhatWasReadBefore() {
+        String rich = Check.all(Check.of(RICH));
+        String poor = Check.all(Check.of(POOR));
+        String none = Check.all(new EatKnown());
+        EatKnown x = busy();
+        for (int round = 0; round < 3; round++) {
+            check.same("poor", Check.library(x, POOR), 0);
+            check.same("nothing of the rich one", poor.equals(Check.all(x)), true);
+            check.same("room for p alone", x.eat(0, 0), true);
+            check.same("copy is heavy", x.copy(1), 1);
+            x.eat(1, 1);
+            check.same("no heir, no E of bite", x.bite(0, 1, 1) + x.dies(1), -1);
+            check.same("rich", Check.library(x, RICH), 0);
+            check.same("nothing of the poor one", rich.equals(Check.all(x)), true);
+            check.same("copy 4", x.copy(0), 4);
+            check.same("a fault", Check.library(x, RICH + "!"), 1 + 16 * RICH.length());
+            check.same("nothing", x.library(), 0);
+            check.same("is nothing", none.equals(Check.all(x)), true);
+            check.same("a fault", Check.library(x, RICH + "!"), 1 + 16 * RICH.length());
+            check.same("without E", Check.library(x, RICH.replace("burn 3;copy 4;bite 1;", "")), 0);
+            check.same("copy is heavy", x.copy(0), 2);
+            x.eat(0, 0);
+            x.eat(0, 1);
+            check.same("bite is 0", x.bite(1, 0, 0), 1);
+            check.same("burn is 0", x.count(10), 0);
+        }
     }
 
     private static void withAFaultAllStays() {
