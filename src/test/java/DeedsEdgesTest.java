@@ -17,6 +17,7 @@ final class DeedsEdgesTest {
         ofTheDeadToo();
         ofATaskNoneIsOthers();
         ofAllAtTheirLimits();
+        understandsAllOnWhichItLeans();
         eatOneAlive();
         eatAPageWithACopy();
         eatWhatHeHasNotEaten();
@@ -38,6 +39,7 @@ final class DeedsEdgesTest {
         days1To1000();
         aDayFreesTheRoomOfAll();
         undoTheLast16();
+        undoAndDoAgain();
         undoNothing();
         whatCanNotBeIsNotUndone();
         lostIfNobodyAliveKnows();
@@ -203,6 +205,33 @@ final class DeedsEdgesTest {
         check.same("all pages", x.person(0, 4), 4095);
         check.same("all facts", x.person(0, 6), 4095);
         check.same("all tasks", x.person(0, 8), 31);
+    }
+
+    /** Twelve facts, each leaning on the one ahead of it: one that he does not know takes all behind it. */
+    private static void understandsAllOnWhichItLeans() {
+        StringBuilder s = new StringBuilder("fact a;");
+        for (char c = 'b'; c <= 'l'; c++) {
+            s.append("fact ").append(c).append(" leans ").append((char) (c - 1)).append(';');
+        }
+        for (char c = 'a'; c <= 'l'; c++) {
+            s.append("page p").append(c).append(" recipe weigh 1 copies 1 says ").append(c).append(';');
+        }
+        s.append("person ann room 40 die 0;task s worth 1 needs a;task t worth 1 needs l;");
+        for (int missing = 0; missing < 12; missing++) {
+            EatKnown x = Check.of(s.toString());
+            check.same("nothing", x.person(0, 6), 0);
+            for (int page = 11; page >= 0; page--) {
+                if (page != missing) {
+                    x.eat(0, page);
+                }
+            }
+            check.same("all but one are known", x.person(0, 5), 4095 & ~(1 << missing));
+            check.same("those ahead of it are understood", x.person(0, 6), (1 << missing) - 1);
+            check.same("tasks", x.person(0, 8), missing == 0 ? 0 : 1);
+            x.eat(0, missing);
+            check.same("all are understood", x.person(0, 6), 4095);
+            check.same("both tasks", x.person(0, 8), 3);
+        }
     }
 
     private static void eatOneAlive() {
@@ -561,6 +590,31 @@ final class DeedsEdgesTest {
             check.same("one can be again", x.count(11), 1);
             check.same("undo that", x.undo(), true);
             check.same("the same day", x.count(6), deeds - many);
+        }
+    }
+
+    private static void undoAndDoAgain() {
+        for (int back = 0; back <= 16; back++) {
+            for (int again = 0; again <= 18; again++) {
+                EatKnown x = Check.of(TEXT);
+                for (int i = 0; i < 20; i++) {
+                    x.days(1);
+                }
+                for (int i = 0; i < back; i++) {
+                    x.undo();
+                }
+                for (int i = 0; i < again; i++) {
+                    x.days(10);
+                }
+                int many = Math.min(16, 16 - back + again);
+                check.same("what can be undone", x.count(11), many);
+                for (int i = 1; i <= many; i++) {
+                    check.same("undo", x.undo(), true);
+                    int due = i <= again ? 20 - back + 10 * (again - i) : 20 - back - (i - again);
+                    check.same("the day of " + back + " back, " + again + " again, " + i, x.count(6), due);
+                }
+                check.same("no more", x.undo(), false);
+            }
         }
     }
 
